@@ -74,7 +74,7 @@ public final class KerbSide {
         outlook = new Outlook();
         mover = new Mover(plan, street);
         arrivals = new Arrivals(plan, street);
-        letters = new int[Rule.LETTERS.length()];
+        letters = new int[Rule.LETTER_COUNT];
     }
 
     public int feed(int a, int b, int c, int d, int e) {
@@ -369,22 +369,11 @@ public final class KerbSide {
     }
 
     public int seek(int n, int chance, int home, int walk, int round) {
-        if (!canSeek(n, chance, home, walk, round)) {
-            return NONE;
-        }
-        return costFrom(1, n, chance, home, walk, round);
+        return canSeek(n, chance, home, walk, round) ? driven(false, n, chance, home, walk, round) : NONE;
     }
 
     public int take(int n, int chance, int home, int walk, int round) {
-        if (!canSeek(n, chance, home, walk, round)) {
-            return NONE;
-        }
-        for (int place = 1; place <= n; place++) {
-            if (costAt(place, home, walk) <= costFrom(place + 1, n, chance, home, walk, round)) {
-                return place;
-            }
-        }
-        return NONE;
+        return canSeek(n, chance, home, walk, round) ? driven(true, n, chance, home, walk, round) : NONE;
     }
 
     private static boolean canSeek(int n, int chance, int home, int walk, int round) {
@@ -396,17 +385,18 @@ public final class KerbSide {
         return value >= least && value <= most;
     }
 
-    private static int costFrom(int from, int n, int chance, int home, int walk, int round) {
+    /** What it costs from PLACE 1 on or, if one wants to know where to take, the first PLACE to take. */
+    private static int driven(boolean taking, int n, int chance, int home, int walk, int round) {
+        int first = NONE;
         int behind = COST * round;
-        for (int place = n; place >= from; place--) {
-            int least = Math.min(costAt(place, home, walk), behind);
-            behind = (chance * least + (HUNDRED - chance) * behind) / HUNDRED;
+        for (int place = n; place >= 1; place--) {
+            int cost = COST * walk * Math.abs(place - home);
+            if (cost <= behind) {
+                first = place;
+            }
+            behind = (chance * Math.min(cost, behind) + (HUNDRED - chance) * behind) / HUNDRED;
         }
-        return behind;
-    }
-
-    private static int costAt(int place, int home, int walk) {
-        return COST * walk * Math.abs(place - home);
+        return taking ? first : behind;
     }
 
     public int gaps(int what) {
@@ -838,6 +828,7 @@ public final class KerbSide {
     /** A RULE as a row of orders to a small machine that puts numbers upon a pile. */
     private static final class Rule {
         private static final String LETTERS = "plban";
+        private static final int LETTER_COUNT = 5;
         private static final int BOUND = 1000000;
         /** Six ( [ ! within one another never pile up more than 18 numbers. */
         private static final int MOST_PILE = 32;
