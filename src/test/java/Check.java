@@ -5,8 +5,26 @@ final class Check {
     static final long THROWN = Long.MIN_VALUE;
     private static int asked = 0;
     private static int wrong = 0;
+    private static int sentences = 0;
+    private static String sentence = "";
+    private static int askedBefore = 0;
 
     private Check() {
+    }
+
+    /** The document's sentence that the answers behind this call belong to; one without an answer is a fault. */
+    static void says(String words) {
+        close();
+        sentence = words;
+        sentences++;
+        askedBefore = asked;
+    }
+
+    private static void close() {
+        if (sentences > 0 && asked == askedBefore) {
+            wrong++;
+            System.out.println("no answer was asked for: " + sentence);
+        }
     }
 
     static void due(String call, long got, long want) {
@@ -14,7 +32,8 @@ final class Check {
         if (got != want) {
             wrong++;
             if (wrong <= 40) {
-                System.out.println(call + " answered " + got + ", due is " + want);
+                String where = sentence.isEmpty() ? "" : "'" + sentence + "': ";
+                System.out.println(where + call + " answered " + got + ", due is " + want);
             }
         }
     }
@@ -24,7 +43,9 @@ final class Check {
     }
 
     static void finish() {
-        System.out.println(asked + " answers, " + wrong + " not as due");
+        close();
+        String of = sentences == 0 ? "" : " to " + sentences + " sentences";
+        System.out.println(asked + " answers" + of + ", " + wrong + " not as due");
         if (wrong != 0 || asked == 0) {
             System.exit(1);
         }
