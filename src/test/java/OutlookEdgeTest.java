@@ -25,6 +25,7 @@ public final class OutlookEdgeTest {
         seekBounds();
         take();
         gaps();
+        fewerGaps();
         count();
         Check.finish();
     }
@@ -149,6 +150,7 @@ public final class OutlookEdgeTest {
         Check.due("FEWEST of 7 and 10", x.ends(0, 0), 1 + 2);
         Check.due("MOST of 7 and 10", x.ends(0, 1), 2 + 3);
         Check.due("ones", kerbOf(20, 1).ends(0, 0), 20);
+        Check.due("MOST ones", kerbOf(20, 1).ends(0, 1), 20);
         Check.due("no GAP", Check.kerb("kl2;sl1;gl2").ends(0, 0), 0);
         Check.due("no GAP", Check.kerb("kl2;sl1;gl2").ends(0, 1), 0);
         Check.says("ends: NONE: no such ones.");
@@ -436,6 +438,39 @@ public final class OutlookEdgeTest {
         for (int what = -1; what <= 4; what++) {
             Check.due("no KERB " + what, new KerbSide().gaps(what), -1);
         }
+    }
+
+    private static void fewerGaps() {
+        Check.says("GAPS are told as they stand: one that is no more counts nowhere");
+        KerbSide x = standing("kl20;sl1;sl3;sl9", 0, 1, 0, 5, 0, 16);
+        gapsAre(x, 10, 4, 17, 0);
+        Check.due("fits", x.fits(1, -1), 1 + 8 + 1);
+        Check.due("MOST", x.ends(1, 1), 1 + 3 + 1);
+        x.stop(1, 17);
+        x.stop(2, 6);
+        x.stop(0, 15);
+        gapsAre(x, 3, 2, 4, 0);
+        Check.due("fits", x.fits(1, -1), 1);
+        Check.due("the only one", x.fits(1, 0), 2);
+        Check.due("no other", x.fits(1, 1), -1);
+        Check.due("FEWEST", x.ends(1, 0), 1);
+        Check.due("MOST", x.ends(1, 1), 1);
+        Check.due("MEAN", x.mean(1, false), MILLION);
+        Check.due("LIKELY", x.likely(1, 1), 1000000000);
+        x.stop(1, 2);
+        gapsAre(x, 1, 1, 1, 0);
+        x.stop(0, 0);
+        gapsAre(x, 0, 0, 0, 0);
+        Check.due("nowhere", x.fits(0, -1), 0);
+        Check.due("nowhere", x.fits(0, 0), -1);
+        Check.due("no MOST", x.ends(0, 1), 0);
+        KerbSide useless = standing("kl9;sl2", 0, 1, 0, 4, 0, 7);
+        gapsAre(useless, 1, 3, 3, 3);
+        useless.leave(1);
+        useless.stop(0, 0);
+        useless.leave(4);
+        useless.stop(0, 2);
+        gapsAre(useless, 3, 1, 3, 0);
     }
 
     private static void count() {
