@@ -585,14 +585,16 @@ public final class KerbSide {
             }
         }
 
+        /** The sign that a reader stands at is the FAULT, if there was none ahead of it. */
         private void refuse() {
-            look();
-            refuseAt(at);
+            if (wrong == NONE) {
+                wrong = at;
+            }
         }
 
-        private void refuseAt(int where) {
+        private void refuseLastDigit() {
             if (wrong == NONE) {
-                wrong = where;
+                wrong = at - 1;
             }
         }
 
@@ -619,7 +621,7 @@ public final class KerbSide {
                 at++;
             }
             if (onDigit()) {
-                refuseAt(at);
+                refuse();
             }
             return value;
         }
@@ -627,7 +629,7 @@ public final class KerbSide {
         private int numberWithin(int mostDigits, int least, int most) {
             int value = number(mostDigits);
             if (value < least || value > most) {
-                refuseAt(at - 1);
+                refuseLastDigit();
             }
             return value;
         }
